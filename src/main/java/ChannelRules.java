@@ -20,6 +20,8 @@ public final class ChannelRules {
     private static final int SEARCHED_TIME = 2880;
     /** Above every time that a route can take. */
     private static final int UNREACHED = 1000000;
+    /** Longer than any search for a time. */
+    private static final int FOREVER = 1000000;
 
     private static final int DAY = 1440;
     private static final int NIGHT_ENDS = 300;
@@ -152,15 +154,18 @@ public final class ChannelRules {
         if (!isVoyage(ship, from, to) || !isWithin(time, now, LAST_TIME)) {
             throw new IllegalArgumentException("no such ship or points, or not such a time");
         }
-        if (!planRoute(ship, from, to) || isNeverFree(PLAN)) {
+        if (!planRoute(ship, from, to)) {
             return NONE;
         }
         int last = Math.min(time + SEARCHED_TIME, LAST_TIME);
-        for (int begin = time; begin <= last; begin++) {
+        int begin = time;
+        while (begin <= last) {
             passages.begin[PLAN] = begin;
-            if (firstBar(PLAN) == FREE) {
+            int wait = planWait();
+            if (wait <= 0) {
                 return begin;
             }
+            begin += wait;
         }
         return NONE;
     }
@@ -373,9 +378,10 @@ public final class ChannelRules {
         if (isBarredInWind(row, i)) {
             return BAR_WIND;
         }
-        int from = passages.entersAt(row, i);
-        int to = passages.leavesAt(row, i);
-        return pieces.isClosed(passages.pieceOf(row, i), from, to) ? BAR_CLOSED : FREE;
+        int enters = passages.entersAt(row, i);
+        int leaves = passages.leavesAt(row, i);
+        int closed = pieces.closedFor(passages.pieceOf(row, i), enters, leaves);
+        return closed > 0 ? BAR_CLOSED : FREE;
     }
 
     private boolean isAgainstOneWay(int row, int i) {
@@ -397,16 +403,6 @@ public final class ChannelRules {
     private boolean isBarredInWind(int row, int i) {
         int mostWidth = pieces.ruleOf(passages.pieceOf(row, i), RULE_WIND);
         return windy && ships.width[passages.ship[row]] > mostWidth;
-    }
-
-    /** Whether a row is barred whenever it begins, so that no search for a time can help. */
-    private boolean isNeverFree(int row) {
-        for (int i = 0; i < passages.stays[row]; i++) {
-            if (isAgainstOneWay(row, i) || isBarredInWind(row, i)) {
-                return true;
-            }
-        }
-        return false;
     }
 
     private int barBySlots(int row, int i) {
@@ -443,6 +439,58 @@ public final class ChannelRules {
         boolean allowed = pieces.ruleOf(piece, RULE_OVERTAKING_ALLOWED) == 1;
         return passages.isOvertaking(row, i, slot, j) && (!allowed || tooWide)
                 ? BAR_OVERTAKING : FREE;
+    }
+
+    /**
+     * By how many minutes the plan has to begin later until all that bars it now can be gone: 0
+     * if it is FREE. It is not FREE at any minute before that, so a search may leave them out.
+     */
+    private int planWait() {
+        int wait = 0;
+        for (int i = 0; i < passages.stays[PLAN]; i++) {
+            wait = Math.max(wait, Math.max(planWaitByPiece(i), planWaitBySlots(i)));
+        }
+        return wait;
+    }
+
+    private int planWaitByPiece(int i) {
+        if (isAgainstOneWay(PLAN, i) || isBarredInWind(PLAN, i)) {
+            return FOREVER;
+        }
+        int enters = passages.entersAt(PLAN, i);
+        int leaves = passages.leavesAt(PLAN, i);
+        int closed = pieces.closedFor(passages.pieceOf(PLAN, i), enters, leaves);
+        return Math.max(closed, isBarredAtNight(PLAN, i) ? minutesToMorning(enters) : 0);
+    }
+
+    private static int minutesToMorning(int time) {
+        return Math.floorMod(NIGHT_ENDS - time, DAY);
+    }
+
+    private int planWaitBySlots(int i) {
+        int wait = 0;
+        for (int slot = 1; slot <= passages.slots; slot++) {
+            if (passages.given[slot]) {
+                wait = Math.max(wait, planWaitFor(slot, i));
+            }
+        }
+        return wait;
+    }
+
+    private int planWaitFor(int slot, int i) {
+        int bar = conflictWith(slot, PLAN, i);
+        int j = passages.stayOn(slot, passages.pieceOf(PLAN, i));
+        if (bar == FREE || j == NONE) {
+            return 0;
+        }
+        int enters = passages.entersAt(PLAN, i);
+        if (bar != BAR_OVERTAKING) {
+            return passages.leavesAt(slot, j) - enters;
+        }
+        // It may follow the other one as soon as it both enters and leaves behind that.
+        int byEntering = passages.entersAt(slot, j) - enters;
+        int byLeaving = passages.leavesAt(slot, j) - passages.leavesAt(PLAN, i);
+        return Math.max(byEntering, byLeaving) + 1;
     }
 
     private int endSlotsOn(int piece, int from, int to) {
@@ -551,14 +599,16 @@ public final class ChannelRules {
             spans[piece]++;
         }
 
-        boolean isClosed(int piece, int from, int to) {
-            int place = piece * MOST_SPANS;
+        /** From when a stay enters, how long spans with a minute of it last: 0 without one. */
+        int closedFor(int piece, int enters, int leaves) {
+            int time = 0;
             for (int i = 0; i < spans[piece]; i++) {
-                if (shareMinute(from, to, spanFrom[place + i], spanTo[place + i])) {
-                    return true;
+                int place = piece * MOST_SPANS + i;
+                if (shareMinute(enters, leaves, spanFrom[place], spanTo[place])) {
+                    time = Math.max(time, spanTo[place] - enters);
                 }
             }
-            return false;
+            return time;
         }
     }
 
