@@ -349,8 +349,10 @@ public final class ChannelRules {
     }
 
     private int travelTime(int ship, int piece) {
-        // No ship is taken on with a speed below 1, so the divisor is never 0.
         int speed = ships.speed[ship];
+        if (speed < 1) {
+            return UNREACHED;
+        }
         return (pieces.length[piece] + speed - 1) / speed;
     }
 
