@@ -18,7 +18,8 @@ final class Check {
         int got = answer(made);
         if (got != want) {
             wrong++;
-            System.out.println(call + " answered " + text(got) + ", due is " + text(want));
+            System.out.println(place() + call + " answered " + text(got)
+                + ", due is " + text(want));
         }
     }
 
@@ -42,6 +43,16 @@ final class Check {
             }
             throw e;
         }
+    }
+
+    /** The test's method and line from which the check was made. */
+    private static String place() {
+        for (StackTraceElement at : new Throwable().getStackTrace()) {
+            if (!at.getClassName().startsWith(Check.class.getName())) {
+                return at.getMethodName() + ", line " + at.getLineNumber() + ": ";
+            }
+        }
+        return "";
     }
 
     static String text(int answer) {

@@ -238,6 +238,10 @@ public final class PlainModelTest {
         same("count(" + what + ")", model.count(what), () -> program.count(what));
     }
 
+    /**
+     * By now the document leaves the answers free; this program's stay the same, so all that the
+     * run has left in it can be looked at.
+     */
     private void compareState() {
         run = run.replaceAll(",.*", "") + ", at its end";
         for (int w = -1; w <= 52; w++) {
