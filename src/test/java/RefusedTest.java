@@ -88,7 +88,7 @@ public final class RefusedTest {
         return x;
     }
 
-    /** Some three hundred answers; the last ones change the object, and so come last. */
+    /** What the object answers now; the calls that change it come last. */
     private static String answers(ChannelRules x) {
         List<Integer> all = new ArrayList<>();
         for (int what = -1; what <= 7; what++) {
